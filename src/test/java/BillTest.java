@@ -77,11 +77,12 @@ public final class BillTest {
 
     private static void eachRoundedDown() {
         ChargeYard x = yard();
-        x.tariff(0, 3, 19, 19, 0);
+        x.tariff(0, 3, 20, 20, 0);
+        x.car(600000, 0, 2999);
         passTo(x, 359);
-        x.plug(0, 0, 0);
+        x.plug(0, 2, 0);
         x.pass(2);
-        // 3000 watt minutes of each, times 19, are 57000
+        // 2999 watt minutes of each, times 20, are 59980
         bills("not yet a cent of either", x, 0, 3);
         x.pass(1);
         bills("a cent of the day", x, 0, 4);

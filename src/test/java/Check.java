@@ -44,13 +44,20 @@ final class Check {
         due(call, thrownBy(made), "IllegalStateException");
     }
 
-    static String thrownBy(Call made) {
+    private static String thrownBy(Call made) {
         try {
             made.run();
             return "nothing";
         } catch (RuntimeException thrown) {
-            return thrown.getClass().getSimpleName();
+            return nameOf(thrown);
         }
+    }
+
+    /** Tells what the yard throws itself from what the machine or the library throws in it. */
+    static String nameOf(RuntimeException thrown) {
+        StackTraceElement[] trace = thrown.getStackTrace();
+        boolean isOwn = trace.length > 0 && trace[0].getClassName().matches("(Charge|Plain)Yard");
+        return thrown.getClass().getSimpleName() + (isOwn ? "" : ", and not by a throw");
     }
 
     /** Ends the program with 1 if an answer was wrong. */

@@ -1,6 +1,7 @@
 /** Promises 16 to 18: power, powerAnew and overloads. */
 public final class PowerTest {
     private static final Check CHECK = new Check("PowerTest");
+    private static boolean isAnewFirst = false;
 
     public static void main(String[] args) {
         wrongArguments();
@@ -11,6 +12,7 @@ public final class PowerTest {
         ranks();
         lesserBounds();
         evenParts();
+        eightBounds();
         sun();
         nothingToGive();
         linkLost();
@@ -21,10 +23,15 @@ public final class PowerTest {
         CHECK.end();
     }
 
+    /** Now the one is asked first, now the other: neither may live on what the other found. */
     private static void powers(String when, ChargeYard x, int... watts) {
-        for (int i = 0; i < watts.length; i++) {
-            CHECK.due(when + ", power(" + i + ")", x.power(i), watts[i]);
-            CHECK.due(when + ", powerAnew(" + i + ")", x.powerAnew(i), watts[i]);
+        isAnewFirst = !isAnewFirst;
+        for (int half = 0; half < 2; half++) {
+            boolean isAnew = (half == 0) == isAnewFirst;
+            for (int i = 0; i < watts.length; i++) {
+                String call = when + (isAnew ? ", powerAnew(" : ", power(") + i + ")";
+                CHECK.due(call, isAnew ? x.powerAnew(i) : x.power(i), watts[i]);
+            }
         }
     }
 
@@ -188,6 +195,24 @@ public final class PowerTest {
         powers("all that they want", x, 1500, 3000, 1400, 2000, 9000);
         x.set(0, 200000);
         powers("far more than they want", x, 1500, 3000, 1400, 2000, 9000);
+    }
+
+    private static void eightBounds() {
+        ChargeYard x = new ChargeYard();
+        for (int i = 0; i < 8; i++) {
+            x.socket(0, 50000);
+            x.car(600000, 0, 2200 - 100 * i);
+            x.card(0, 0);
+            x.plug(i, i, i);
+        }
+        x.set(0, 14800);
+        powers("all bounds", x, 2200, 2100, 2000, 1900, 1800, 1700, 1600, 1500);
+        x.set(0, 14795);
+        powers("less than all", x, 2195, 2100, 2000, 1900, 1800, 1700, 1600, 1500);
+        x.set(0, 13803);
+        powers("three more than even", x, 1801, 1801, 1801, 1800, 1800, 1700, 1600, 1500);
+        x.set(0, 13809);
+        powers("nine more than even", x, 1803, 1802, 1802, 1802, 1800, 1700, 1600, 1500);
     }
 
     private static void sun() {

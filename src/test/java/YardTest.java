@@ -13,6 +13,7 @@ public final class YardTest {
         links();
         linksThatStayAsTheyAre();
         tariffs();
+        tariffAtFirst();
         tariffRanges();
         CHECK.end();
     }
@@ -182,6 +183,18 @@ public final class YardTest {
         x.plug(0, 0, 0);
         CHECK.due("sessions that begin from now on", x.bill(2), 100);
         CHECK.due("sessions that began ahead", x.bill(0), 0);
+    }
+
+    private static void tariffAtFirst() {
+        ChargeYard x = yard();
+        x.plug(0, 0, 0);
+        for (int i = 0; i < 3; i++) {
+            x.pass(120);
+        }
+        x.plug(1, 1, 1);
+        x.pass(60);
+        CHECK.due("energy of the night and idling", x.bill(0), 0);
+        CHECK.due("energy of the day", x.bill(1), 0);
     }
 
     private static void tariffRanges() {
