@@ -44,7 +44,7 @@ final class Check {
         due(call, thrownBy(made), "IllegalStateException");
     }
 
-    private static String thrownBy(Call made) {
+    static String thrownBy(Call made) {
         try {
             made.run();
             return "nothing";
